@@ -9,6 +9,7 @@ public final class StagesTest {
         swap();
         swapRefused();
         swapAboveOthers();
+        eightStages();
         ends();
         search();
         searchOtherRings();
@@ -212,6 +213,42 @@ public final class StagesTest {
         Check.due("the third stays", x.stages(2, 0), 4);
     }
 
+    private static void eightStages() {
+        WordTerminator x = new WordTerminator();
+        x.signs(4);
+        String[] texts = {"a>b", "b>c", "c>d", "d>", "ab>ba", "ac=ca", "bc=cb", "ad=da"};
+        for (int i = 0; i < texts.length; i++) {
+            Check.due("rule", Check.rule(x, texts[i]), i);
+        }
+        for (int i = 0; i < 4; i++) {
+            numbers(x, 1, 1, 1, 1);
+            x.enter(i, 0, 0, 2);
+            Check.due("stage " + i, x.stage(), 1 << i);
+        }
+        x.size(2);
+        for (int i = 4; i < 8; i++) {
+            for (int sign = 0; sign < 4; sign++) {
+                Check.matrix(x, sign, 2, 1, 0, 0, 1);
+            }
+            x.enter(texts[i].charAt(0) - 'a', 0, 0, 2);
+            x.enter(texts[i].charAt(1) - 'a', 0, 1, 1);
+            Check.due("strict ones left", x.count(3), i == 4 ? 1 : 0);
+            Check.due("stage " + i, x.stage(), 1 << i);
+            Check.due("removed by", x.info(i, 1), i);
+        }
+        Check.due("stages", x.count(2), 8);
+        Check.due("no more", x.stage(), -3);
+        Check.due("no more to find", x.auto(1), -3);
+        x.size(1);
+        Check.due("no more to find", x.auto(1), 0);
+        for (int k = 7; k >= 0; k--) {
+            Check.due("back", x.back(), k);
+        }
+        Check.due("strict ones again", x.count(3), 5);
+        Check.due("a word with eight rules", Check.word(x, "ad"), 2);
+        Check.due("run", x.run(40), 5);
+    }
+
     private static void ends() {
         Check.due("no rules", new WordTerminator().ends(), 1);
         WordTerminator x = Check.withRules("a=aa", "c=c");
@@ -348,5 +385,12 @@ public final class StagesTest {
         Check.due("auto(2)", x.auto(2), -3);
         Check.due("auto(0) ahead of NOT", x.auto(0), -2);
         Check.due("no stage", x.count(2), 0);
+        x.size(1);
+        Check.due("auto(9)", x.auto(9), 1);
+        x.back();
+        x.drop(0);
+        x.signs(4);
+        Check.due("auto(9), 10000 tries", x.auto(9), -3);
+        Check.due("auto(8), 6561 tries", x.auto(8), 0);
     }
 }
