@@ -16,6 +16,9 @@ public final class WordTerminator {
     private static final int MOST_BASE = 9;
     private static final int MOST_TRIES = 8192;
 
+    private static final int GREATEST = 2147483647;
+    private static final int LEAST = -2147483648;
+
     private static final int NATURAL = 0;
     private static final int TROPIC = 1;
     private static final int ARCTIC = 2;
@@ -271,7 +274,8 @@ public final class WordTerminator {
             case 2:
                 return laid[k].reading.size;
             case 3:
-                return bitsAsFirst(k);
+                int bits = fallingBits(laid[k].reading, allBits());
+                return bits == 0 ? NONE : bits;
             default:
                 return BAD;
         }
@@ -435,13 +439,13 @@ public final class WordTerminator {
 
     public int get(int s, int form, int i) {
         if (!isSheet(s) || !isForm(form)) {
-            return Integer.MIN_VALUE;
+            return LEAST;
         }
         int finding = sheets[s].findingAt(form, i);
         if (finding != 0) {
             // An item of ints may be any int, so none is left to tell the FINDING by.
             latestFinding = finding;
-            return Integer.MIN_VALUE;
+            return LEAST;
         }
         return sheets[s].items[i];
     }
@@ -515,7 +519,13 @@ public final class WordTerminator {
         h = mix(h, ends());
         h = mixRules(h);
         h = mixSigns(h);
-        h = mixStages(h);
+        for (int k = 0; k < stageCount; k++) {
+            for (int what = 0; what <= 3; what++) {
+                h = mix(h, stages(k, what));
+            }
+            h = mix(h, measure(k));
+            h = mix(h, kept(k, 0, 0, 0));
+        }
         h = mix(h, measure(NONE));
         for (int k = NONE; k < MOST_WORD; k++) {
             h = mix(h, letter(k));
@@ -545,18 +555,6 @@ public final class WordTerminator {
                     h = mix(h, entry(sign, x, y));
                 }
             }
-        }
-        return h;
-    }
-
-    private long mixStages(long start) {
-        long h = start;
-        for (int k = 0; k < stageCount; k++) {
-            for (int what = 0; what <= 3; what++) {
-                h = mix(h, stages(k, what));
-            }
-            h = mix(h, measure(k));
-            h = mix(h, kept(k, 0, 0, 0));
         }
         return h;
     }
@@ -686,11 +684,6 @@ public final class WordTerminator {
             }
         }
         return bits;
-    }
-
-    private int bitsAsFirst(int k) {
-        int bits = fallingBits(laid[k].reading, allBits());
-        return bits == 0 ? NONE : bits;
     }
 
     private void layStage(int bits) {
@@ -971,28 +964,29 @@ public final class WordTerminator {
 
         // By TROPIC NONE is above all numbers; by ARCTIC -1 is below them as it is.
         int rank(int number) {
-            return ring == TROPIC && number == NONE ? Integer.MAX_VALUE : number;
+            return ring == TROPIC && number == NONE ? GREATEST : number;
         }
 
-        // One number of a matrix (of size, row x of it) multiplied with that of a sign.
-        long product(int[] cells, int x, int sign, int y) {
-            return ring == NATURAL ? naturalProduct(cells, x, sign, y) : bestSum(cells, x, sign, y);
-        }
-
-        // Never wraps: three products of 31 and 10 bits.
-        private long naturalProduct(int[] cells, int x, int sign, int y) {
+        // Row x of a matrix times column y of a sign's. Never wraps: three products of 31 and 10 bits.
+        long naturalProduct(int[] cells, int x, int sign, int y) {
+            int column = sign * CELLS + y;
             long sum = 0L;
             for (int z = 0; z < size; z++) {
-                sum += (long) cells[x * WIDTH + z] * Math.max(0, entryAt(sign, z, y));
+                int factor = entries[column + z * WIDTH];
+                if (factor != NONE) {
+                    sum += (long) cells[x * WIDTH + z] * factor;
+                }
             }
             return sum;
         }
 
-        private int bestSum(int[] cells, int x, int sign, int y) {
+        // The same by TROPIC and ARCTIC.
+        int bestSum(int[] cells, int x, int sign, int y) {
+            int column = sign * CELLS + y;
             int best = NONE;
             for (int z = 0; z < size; z++) {
                 int cell = cells[x * WIDTH + z];
-                int factor = entryAt(sign, z, y);
+                int factor = entries[column + z * WIDTH];
                 if (cell != NONE && factor != NONE) {
                     int sum = cell + factor;
                     if (best == NONE || (ring == TROPIC ? sum < best : sum > best)) {
@@ -1035,8 +1029,9 @@ public final class WordTerminator {
         private void multiply(int sign, Reading by) {
             for (int x = 0; x < by.size; x++) {
                 for (int y = 0; y < by.size; y++) {
-                    long number = by.product(cells, x, sign, y);
-                    if (number > Integer.MAX_VALUE) {
+                    long number = by.ring == NATURAL
+                        ? by.naturalProduct(cells, x, sign, y) : by.bestSum(cells, x, sign, y);
+                    if (number > GREATEST) {
                         over = true;
                         return;
                     }

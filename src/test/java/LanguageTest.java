@@ -95,6 +95,8 @@ public final class LanguageTest {
     private static void names() {
         Set<String> open = new HashSet<>(List.of(FACE.split(" ")));
         for (Method method : WordTerminator.class.getDeclaredMethods()) {
+            boolean hidden = Modifier.isPrivate(method.getModifiers());
+            Check.holds(method + " bears no name of the face", !hidden || !open.contains(method.getName()));
             Check.holds(method + " takes at most seven", method.getParameterCount() <= 7);
         }
         for (Class<?> type : WordTerminator.class.getDeclaredClasses()) {
