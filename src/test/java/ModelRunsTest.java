@@ -32,12 +32,10 @@ public final class ModelRunsTest {
 
     private void go() throws Exception {
         ask("digest");
-        if (random.nextInt(3) == 0) {
-            ask("signs", random.nextInt(4) + 1);
-        }
-        int told = random.nextInt(7);
-        for (int i = 0; i < told; i++) {
-            tellRule();
+        if (random.nextInt(4) == 0) {
+            startFull();
+        } else {
+            startWithSome();
         }
         for (int s = 0; s < 4; s++) {
             ask("sheet", s, random.nextInt(4) == 0 ? s % 3 : 1, random.nextInt(6));
@@ -46,6 +44,33 @@ public final class ModelRunsTest {
             act(random.nextInt(20));
             ask("digest");
         }
+    }
+
+    private void startWithSome() throws Exception {
+        if (random.nextInt(3) == 0) {
+            ask("signs", random.nextInt(4) + 1);
+        }
+        int told = random.nextInt(7);
+        for (int i = 0; i < told; i++) {
+            tellRule();
+        }
+    }
+
+    // Four signs, eight rules, four stages and a word of 24 signs.
+    private void startFull() throws Exception {
+        ask("signs", 4);
+        for (String text : States.EIGHT) {
+            type(text);
+            ask("rule");
+        }
+        for (int sign : new int[] {3, 0, 1, 2}) {
+            ask("enter", sign, 0, 0, 2);
+            ask("stage");
+            ask("enter", sign, 0, 0, 1);
+        }
+        type("abcabcabcabddd");
+        ask("word");
+        ask("run", 2);
     }
 
     private void ask(String name, int... args) throws Exception {
@@ -152,7 +177,8 @@ public final class ModelRunsTest {
     }
 
     private void tellMatrices() throws Exception {
-        int size = random.nextInt(3) == 0 ? 2 : 1;
+        int kind = random.nextInt(8);
+        int size = kind == 0 ? 3 : kind <= 3 ? 2 : 1;
         ask("size", size);
         for (int sign = 0; sign < 3; sign++) {
             for (int e = 0; e < size * size; e++) {
