@@ -5,6 +5,7 @@ import java.lang.reflect.Modifier;
 import java.nio.charset.StandardCharsets;
 import java.nio.file.Files;
 import java.nio.file.Path;
+import java.util.Arrays;
 import java.util.HashSet;
 import java.util.List;
 import java.util.Set;
@@ -18,6 +19,10 @@ public final class LanguageTest {
     private static final String FACE = "signs type wipe fault rule drop side info ring size enter entry read sound value "
         + "stage back stages kept swap ends search auto word step run letter measure sheet lose lay get copy write count "
         + "digest";
+    // How many numbers each of these takes, in the same order; all are ints.
+    private static final int[] TAKES = {1, 1, 0, 1, 0, 1, 3, 2, 1, 1, 4, 3, 2, 0, 4, 0, 0, 2, 4, 1, 0, 1, 1, 0, 0, 1, 1, 1, 3,
+        1, 4, 3, 5, 1, 1, 0};
+    private static final String[] CONSTANTS = {"NONE", "BAD", "NOT", "FULL", "OVER"};
     private static final String[] BARRED = {"throw", "throws", "try", "catch", "finally", "synchronized", "assert",
         "protected", "package", "->", "::", "Exact(", "System.out", "System.nano", "System.current", "Object",
         "hashCode", "toString", "volatile", "native", "while (true)", "for (;;)"};
@@ -26,7 +31,10 @@ public final class LanguageTest {
         String source = Files.readString(SOURCE, StandardCharsets.US_ASCII);
         String code = source.replaceAll("//[^\n]*", "");
         face();
+        takes();
+        constants();
         barredWords(code);
+        madeInConstructors(code);
         classesInside();
         names();
         lengths(code);
@@ -48,12 +56,50 @@ public final class LanguageTest {
         }
         Check.holds("the face is that of the document: " + open, open.equals(told));
         for (Field field : type.getDeclaredFields()) {
-            boolean constant = Set.of("NONE", "BAD", "NOT", "FULL", "OVER").contains(field.getName());
+            boolean constant = List.of(CONSTANTS).contains(field.getName());
             Check.holds(field + " is private", constant == !Modifier.isPrivate(field.getModifiers()));
         }
         Constructor<?>[] constructors = type.getDeclaredConstructors();
         Check.due("constructors", constructors.length, 1);
+        Check.due("what the constructor takes", constructors[0].getParameterCount(), 0);
         Check.holds("public", Modifier.isPublic(constructors[0].getModifiers()));
+    }
+
+    private static void takes() throws Exception {
+        String[] names = FACE.split(" ");
+        Check.due("calls of the face", names.length, TAKES.length);
+        for (int k = 0; k < names.length; k++) {
+            Class<?>[] types = new Class<?>[TAKES[k]];
+            Arrays.fill(types, int.class);
+            Check.holds(names[k] + " is no static one", !Modifier.isStatic(
+                WordTerminator.class.getMethod(names[k], types).getModifiers()));
+        }
+    }
+
+    private static void constants() throws Exception {
+        for (int k = 0; k < CONSTANTS.length; k++) {
+            Field field = WordTerminator.class.getField(CONSTANTS[k]);
+            int wanted = Modifier.PUBLIC | Modifier.STATIC | Modifier.FINAL;
+            Check.due(CONSTANTS[k] + " is public, static and final", field.getModifiers(), wanted);
+            Check.holds(CONSTANTS[k] + " is an int", field.getType() == int.class);
+            Check.due(CONSTANTS[k], field.getInt(null), -1 - k);
+        }
+    }
+
+    // All calls of a run share one room, so fields and constructors alone make objects.
+    private static void madeInConstructors(String code) {
+        String end = "";
+        for (String line : code.split("\n")) {
+            Matcher begin = Pattern.compile("( +)(public )?[A-Z]\\w*\\([^()]*\\) \\{").matcher(line);
+            if (begin.matches()) {
+                end = begin.group(1) + "}";
+            } else if (line.equals(end)) {
+                end = "";
+            }
+            boolean field = line.matches("(    |        )(private |final )[^()]* = new .*");
+            boolean makes = Pattern.compile("\\b(new|clone|copyOf|copyOfRange)\\b").matcher(line).find();
+            Check.holds("made in a field or constructor: " + line, !makes || field || !end.isEmpty());
+        }
     }
 
     private static void barredWords(String code) {

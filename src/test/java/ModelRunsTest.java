@@ -135,11 +135,11 @@ public final class ModelRunsTest {
     }
 
     private int aRule() {
-        return arg(0, Math.max(0, real.count(0) - 1));
+        return arg(0, Math.max(0, model.count(0) - 1));
     }
 
     private int aStage() {
-        return arg(0, Math.max(0, real.count(2) - 1));
+        return arg(0, Math.max(0, model.count(2) - 1));
     }
 
     private void type(String text) throws Exception {
@@ -190,10 +190,10 @@ public final class ModelRunsTest {
     }
 
     private void stagesAnew() throws Exception {
-        if (real.count(2) < 2 || random.nextInt(4) == 0) {
+        if (model.count(2) < 2 || random.nextInt(4) == 0) {
             ask("back");
         } else {
-            ask("swap", arg(0, real.count(2) - 2));
+            ask("swap", arg(0, model.count(2) - 2));
         }
     }
 
